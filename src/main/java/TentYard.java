@@ -192,13 +192,13 @@ public final class TentYard {
         }
         int found = 0, most = 0;
         // Sets rise as numbers, so that of like ones the least stays.
-        for (int set = 1; set < 1 << FIELDS; set++) {
-            if ((set & ~asked) != 0) {
+        for (int set = 1; set <= asked; set++) {
+            int sum = fields.priceOf(set);
+            if ((set & ~asked) != 0 || sum <= most) {
                 continue;
             }
             countOn(taken | set);
-            int sum = fields.priceOf(set);
-            if (ledger.lacking == 0 && sum > most) {
+            if (ledger.lacking == 0) {
                 found = set;
                 most = sum;
             }
@@ -211,12 +211,14 @@ public final class TentYard {
         countAnew(taken);
         long without = ledger.hireSum, most = 0;
         int found = 0;
-        for (int set = 1; set < 1 << FIELDS; set++) {
-            if ((set & ~asked) != 0) {
+        for (int set = 1; set <= asked; set++) {
+            int sum = fields.priceOf(set);
+            // Hiring in only takes from a set's worth: one whose prices are too low needs no counting.
+            if ((set & ~asked) != 0 || sum <= most) {
                 continue;
             }
             countOn(taken | set);
-            long worth = fields.priceOf(set) - (ledger.hireSum - without);
+            long worth = sum - (ledger.hireSum - without);
             if (worth > most) {
                 found = set;
                 most = worth;
@@ -616,10 +618,12 @@ public final class TentYard {
             }
             int row = thing * USE_DAYS;
             for (int day = from; day <= to; day++) {
-                int before = Math.max(0, used[row + day] - have);
+                int before = used[row + day] - have, after = before + v;
                 used[row + day] += v;
-                int after = Math.max(0, used[row + day] - have);
-                hireSum += (long) (after - before) * hire;
+                if (before <= 0 && after <= 0) {
+                    continue;
+                }
+                hireSum += (long) hire * (Math.max(0, after) - Math.max(0, before));
                 lacking += bit(after > 0) - bit(before > 0);
             }
         }
