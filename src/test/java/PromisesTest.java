@@ -560,6 +560,7 @@ public final class PromisesTest {
 
     private static void dearest() {
         Check.about("promise 17");
+        Check.due("dearest(): all that are asked", yard(3, 5, 3, 1).dearest(), 7);
         TentYard x = yard(1, 5, 3, 1);
         Check.due("dearest(): 5, and 3 for 1; 1 for 1 is worth nothing", x.dearest(), 3);
         x.thing(0, 1, 0, 1, 4, 0);
